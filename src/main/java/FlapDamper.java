@@ -303,7 +303,7 @@ public final class FlapDamper {
         }
 
         private static boolean isFigure(int sign) {
-            return isWithin(sign, '0', '9');
+            return sign >= '0' && sign <= '9';
         }
 
         private static String nameOf(int which) {

@@ -14,6 +14,8 @@ public final class EventsTest {
         fifthCauseDrivesOutTheFirst();
         causesOfOneRouteAreItsOwn();
         firstFreeRecordGivesWay();
+        aNewRecordHasNothingOfTheOneThatWent();
+        sixRecordsComeAndGo();
         eventsAreLostWhenAllAreHeld();
         dueIsTheFirstSlotBelowBack();
         dueIsTheEighthSlotAtMost();
@@ -22,6 +24,8 @@ public final class EventsTest {
         heldOnesAreLookedAtAgain();
         smallOnesGo();
         aLateLookByAnotherSlot();
+        eachTickIsASlotOfOne();
+        lettingGoMakesAnotherBest();
         passRefuses();
         passTellsHowManyAreHeld();
         Check.end();
@@ -205,7 +209,9 @@ public final class EventsTest {
         Check.due("7: the fourth is there", damper.announce(0, 0, 5, 4), 1);
         Check.due("7: the fifth is there", damper.announce(0, 0, 6, 5), 1);
         Check.due("7: the first is not", damper.announce(0, 0, 7, 1), 3);
-        Check.due("7: then the second is not", damper.announce(0, 0, 8, 2), 3);
+        for (int cause = 2; cause <= 5; cause++) {
+            Check.due("7: nor then cause " + cause, damper.announce(0, 0, cause, cause), 3);
+        }
     }
 
     private static void causesOfOneRouteAreItsOwn() {
@@ -238,6 +244,47 @@ public final class EventsTest {
         Check.due("7: it comes back anew", damper.route(0, 0, 4), 500);
         Check.due("7: as the last one", damper.record(5), 0);
         Check.due("7: for the first free one", damper.record(1), 2);
+    }
+
+    private static void aNewRecordHasNothingOfTheOneThatWent() {
+        FlapDamper damper = new FlapDamper();
+        for (int prefix = 0; prefix < 7; prefix++) {
+            damper.announce(0, prefix, 1, 0);
+            Check.due("8: withdraw", damper.withdraw(0, prefix, 8), 3);
+        }
+        Check.due("8: the first of all is gone", damper.record(0), 1);
+        Check.due("8: the new one is the last", damper.record(5), 6);
+        Check.due("8: figure", damper.route(0, 6, 4), 1000);
+        Check.due("8: causes", damper.route(0, 6, 6), 1);
+        damper.announce(0, 7, 1, 0);
+        Check.due("7: by no cause", damper.announce(0, 7, 2, 0), 3);
+        Check.due("7: figure", damper.route(0, 7, 4), 500);
+        Check.due("7: causes", damper.route(0, 7, 6), 0);
+        Check.due("8: a cause of the one that went", damper.withdraw(0, 7, 8), 3);
+    }
+
+    private static void sixRecordsComeAndGo() {
+        FlapDamper damper = new FlapDamper();
+        for (int prefix = 0; prefix < 6; prefix++) {
+            Check.flap(damper, 0, prefix, prefix % 2 + 1);
+        }
+        Check.due("9: six records", damper.count(1), 6);
+        damper.pass(100);
+        Check.due("9: those of one flap are gone", damper.count(1), 3);
+        for (int peer = 1; peer < 4; peer++) {
+            Check.flap(damper, peer, 7, 1);
+            damper.announce(peer, 7, peer, peer);
+            damper.announce(peer, 7, 0, peer);
+        }
+        int[] records = {1, 3, 5, 15, 23, 31};
+        int[] figures = {2000, 2000, 2000, 1500, 1500, 1500};
+        for (int i = 0; i < 6; i++) {
+            Check.due("9: record " + i, damper.record(i), records[i]);
+            Check.due("9: figure", damper.route(records[i] / 8, records[i] % 8, 4), figures[i]);
+        }
+        damper.pass(200);
+        Check.due("9: none is left", damper.count(1), 0);
+        Check.due("9: went", damper.count(6), 9);
     }
 
     private static void eventsAreLostWhenAllAreHeld() {
@@ -360,6 +407,33 @@ public final class EventsTest {
         Check.set(damper, "slot=7");
         Check.due("9: not yet due at 7", damper.pass(13), 1);
         Check.due("9: looked at at 14", damper.pass(1), 0);
+    }
+
+    private static void eachTickIsASlotOfOne() {
+        FlapDamper damper = new FlapDamper();
+        Check.set(damper, "slot=1");
+        Check.set(damper, "over=100");
+        Check.set(damper, "back=9999");
+        Check.flap(damper, 0, 0, 1);
+        Check.due("9: due", damper.route(0, 0, 3), 1);
+        Check.due("9: when", damper.when(0, 0), 1);
+        Check.due("9: pass", damper.pass(1), 0);
+        Check.due("9: line", Check.line(damper, 0), "R00@1");
+    }
+
+    private static void lettingGoMakesAnotherBest() {
+        FlapDamper damper = new FlapDamper();
+        for (int prefix = 0; prefix <= 7; prefix += 7) {
+            Check.flap(damper, 2, prefix, 3);
+            damper.announce(2, prefix, 4, 0);
+            Check.due("9: held, so none is best", damper.best(prefix, 0), FlapDamper.NONE);
+            Check.due("9: changed", damper.best(prefix, 2), 6);
+        }
+        damper.pass(130);
+        for (int prefix = 0; prefix <= 7; prefix += 7) {
+            Check.due("9: best then", damper.best(prefix, 0), 2);
+            Check.due("9: changed then", damper.best(prefix, 2), 7);
+        }
     }
 
     private static void passRefuses() {

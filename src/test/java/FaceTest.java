@@ -42,6 +42,11 @@ public final class FaceTest {
                 Check.due(method + " bears a public name", names.contains(method.getName()) ? 1 : 0, 0);
             }
         }
+        for (Class<?> inside : FlapDamper.class.getDeclaredClasses()) {
+            for (Method method : inside.getDeclaredMethods()) {
+                Check.due(method + " bears a public name", names.contains(method.getName()) ? 1 : 0, 0);
+            }
+        }
     }
 
     private static String signature(Method method) {

@@ -60,10 +60,15 @@ public final class ImagesTest {
         return damper;
     }
 
+    /** Routes are let go, records go, others come with other causes, events are echoes and lost. */
     private static void changeAll(FlapDamper damper) {
-        Check.set(damper, "back=50");
+        Check.set(damper, "back=9999");
         Check.set(damper, "slot=3");
         damper.pass(200);
+        damper.announce(3, 0, 6, 0);
+        damper.announce(3, 0, 5, 55);
+        damper.announce(3, 0, 6, 55);
+        damper.withdraw(3, 0, 55);
         for (int prefix = 0; prefix < 8; prefix++) {
             Check.flap(damper, 3, prefix, 3);
             damper.announce(2, prefix, 9, 0);

@@ -2,7 +2,7 @@ import java.util.Random;
 
 /** Runs of 512 calls drawn by fixed seeds, each answer against that of the Model. */
 public final class ModelTest {
-    private static final int RUNS = 1500;
+    private static final int RUNS = 5000;
     private static final int CALLS = 512;
     private static final String[] NAMES = {"half", "slot", "gone", "swap", "over", "back", "top"};
     private static final int[] MOST = {200, 50, 2000, 2000, 9999, 9999, 20000};

@@ -6,10 +6,12 @@ public final class ToldTest {
         routeTells();
         routeRefuses();
         penaltyGoesByTheRow();
+        theRowIsExact();
         penaltyFarAwayIsNothing();
         laterTells();
         laterRefuses();
         whenTells();
+        whenLooksAtTicksToCome();
         whenRefuses();
         longestTells();
         bestIsTheLeastPathThenPeer();
@@ -86,6 +88,23 @@ public final class ToldTest {
         Check.due("11: halved three times", odd.later(0, 0, 180), 124);
     }
 
+    /** Of figures at which a number of the row that is one more, or one less, would tell another penalty. */
+    private static void theRowIsExact() {
+        int[][] figures = {{1000, 1999}, {1000, 1181}, {1037, 1012}, {1031, 1066},
+            {1014, 1055}, {1041, 1024}, {1036, 1078}, {1293, 1392}};
+        int[][] want = {{1000, 1999}, {917, 1082}, {872, 850}, {795, 821},
+            {717, 745}, {675, 663}, {616, 640}, {705, 758}};
+        for (int place = 0; place < 8; place++) {
+            for (int i = 0; i < 2; i++) {
+                FlapDamper damper = new FlapDamper();
+                Check.set(damper, "half=8");
+                Check.set(damper, "gone=" + figures[place][i]);
+                Check.flap(damper, 0, 0, 1);
+                Check.due("11: the row at " + place, damper.later(0, 0, place), want[place][i]);
+            }
+        }
+    }
+
     private static void penaltyFarAwayIsNothing() {
         FlapDamper damper = new FlapDamper();
         Check.set(damper, "half=4");
@@ -147,6 +166,21 @@ public final class ToldTest {
         Check.flap(slow, 0, 0, 10);
         // 20000 halved eight times is 78; by 42495 it is 50, by 38968 (from 150 left over on) 46.
         Check.due("12: far away", slow.when(0, 0), 1750);
+    }
+
+    private static void whenLooksAtTicksToCome() {
+        FlapDamper damper = new FlapDamper();
+        Check.set(damper, "over=100");
+        Check.set(damper, "back=9999");
+        Check.flap(damper, 0, 0, 1);
+        Check.set(damper, "slot=20");
+        damper.pass(15);
+        Check.due("12: due", damper.route(0, 0, 3), 10);
+        Check.due("12: when by slots of 20", damper.when(0, 0), 20);
+        Check.set(damper, "slot=5");
+        Check.due("12: 15 is over", damper.when(0, 0), 20);
+        Check.set(damper, "slot=1");
+        Check.due("12: the next tick", damper.when(0, 0), 16);
     }
 
     private static void whenRefuses() {
