@@ -1,10 +1,5 @@
 /** Promises 1 to 6: a new object, say, wipe, fault, set, bound. */
 public final class BoundsTest {
-    private static final String[] NAMES = {"half", "slot", "gone", "swap", "over", "back", "top"};
-    private static final int[] LEAST = {4, 1, 0, 0, 100, 50, 100};
-    private static final int[] MOST = {200, 50, 2000, 2000, 9999, 9999, 20000};
-    private static final int[] AT_FIRST = {60, 10, 1000, 500, 2000, 750, 8000};
-
     public static void main(String[] args) {
         newObjectIsEmpty();
         sayCountsSigns();
@@ -34,7 +29,7 @@ public final class BoundsTest {
             Check.due("1: count(" + what + ")", damper.count(what), 0);
         }
         for (int which = 0; which < 7; which++) {
-            Check.due("1: bound(" + which + ")", damper.bound(which), AT_FIRST[which]);
+            Check.due("1: bound(" + which + ")", damper.bound(which), Limits.AT_FIRST[which]);
         }
         Check.due("1: record", damper.record(0), FlapDamper.NONE);
         Check.due("1: line", damper.line(0, -1), FlapDamper.NONE);
@@ -108,7 +103,7 @@ public final class BoundsTest {
         faultOf("top=12345x", 9);
         faultOf("over=999999", 10);
         faultOf("over=9999999", 10);
-        for (String name : NAMES) {
+        for (String name : Limits.NAMES) {
             for (int cut = 0; cut < name.length(); cut++) {
                 faultOf(name.substring(0, cut), cut);
             }
@@ -130,18 +125,19 @@ public final class BoundsTest {
     private static void setTakesWhatEachBoundCanBe() {
         for (int which = 0; which < 7; which++) {
             FlapDamper damper = new FlapDamper();
-            int least = LEAST[which];
-            int most = MOST[which];
-            Check.due("5: least", Check.set(damper, NAMES[which] + "=" + least), AT_FIRST[which]);
+            int least = Limits.LEAST[which];
+            int most = Limits.MOST[which];
+            Check.due("5: least", Check.set(damper, Limits.NAMES[which] + "=" + least), Limits.AT_FIRST[which]);
             Check.due("5: the text then", damper.wipe(), 0);
             Check.due("6: bound", damper.bound(which), least);
-            Check.due("5: most", Check.set(damper, NAMES[which] + "=" + most), least);
-            Check.due("5: over most", Check.set(damper, NAMES[which] + "=" + (most + 1)), FlapDamper.OUTSIDE);
+            Check.due("5: most", Check.set(damper, Limits.NAMES[which] + "=" + most), least);
+            Check.due("5: over most", Check.set(damper, Limits.NAMES[which] + "=" + (most + 1)), FlapDamper.OUTSIDE);
             if (least > 0) {
-                Check.due("5: below least", Check.set(damper, NAMES[which] + "=" + (least - 1)), FlapDamper.OUTSIDE);
+                String below = Limits.NAMES[which] + "=" + (least - 1);
+                Check.due("5: below least", Check.set(damper, below), FlapDamper.OUTSIDE);
             }
             for (int other = 0; other < 7; other++) {
-                Check.due("6: bound", damper.bound(other), other == which ? most : AT_FIRST[other]);
+                Check.due("6: bound", damper.bound(other), other == which ? most : Limits.AT_FIRST[other]);
             }
         }
     }

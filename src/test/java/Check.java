@@ -2,15 +2,21 @@
 final class Check {
     private static int made = 0;
     private static int wrong = 0;
+    private static String words = "";
 
     private Check() {
+    }
+
+    /** The words of the document that the answers from here on are due to: a wrong answer is printed under them. */
+    static void sentence(String ofTheDocument) {
+        words = "\"" + ofTheDocument + "\" ";
     }
 
     static void due(String call, long got, long want) {
         made++;
         if (got != want) {
             wrong++;
-            System.out.println(call + " answered " + got + ", due is " + want);
+            System.out.println(words + call + " answered " + got + ", due is " + want);
         }
     }
 
@@ -18,7 +24,7 @@ final class Check {
         made++;
         if (!got.equals(want)) {
             wrong++;
-            System.out.println(call + " answered " + got + ", due is " + want);
+            System.out.println(words + call + " answered " + got + ", due is " + want);
         }
     }
 
@@ -32,6 +38,12 @@ final class Check {
         if (wrong != 0) {
             System.exit(1);
         }
+    }
+
+    /** Numbers that are none of least to most: the next ones on either side, and ones far outside. */
+    static int[] around(int least, int most) {
+        return new int[] {least - 1, most + 1, least - 65536, most + 65536, Integer.MIN_VALUE, Integer.MIN_VALUE + 1,
+            Integer.MAX_VALUE - 1, Integer.MAX_VALUE};
     }
 
     static void say(FlapDamper damper, String text) {

@@ -1,6 +1,3 @@
-import java.util.ArrayList;
-import java.util.List;
-
 /** Promises 18 and 19: image, restore. */
 public final class ImagesTest {
     public static void main(String[] args) {
@@ -43,23 +40,6 @@ public final class ImagesTest {
         Check.due("17: count(9)", first.count(9), 1);
     }
 
-    /** A state in which every part is other than at first. */
-    private static FlapDamper busy() {
-        FlapDamper damper = new FlapDamper();
-        Check.set(damper, "back=800");
-        damper.pass(7);
-        damper.announce(0, 0, 1, 0);
-        damper.withdraw(0, 0, 3);
-        damper.announce(0, 0, 1, 3);
-        damper.withdraw(0, 0, 3);
-        Check.flap(damper, 0, 0, 2);
-        Check.flap(damper, 1, 1, 1);
-        damper.announce(2, 1, 4, 0);
-        damper.announce(2, 1, 5, 9);
-        damper.announce(3, 0, 5, 9);
-        return damper;
-    }
-
     /** Routes are let go, records go, others come with other causes, events are echoes and lost. */
     private static void changeAll(FlapDamper damper) {
         Check.set(damper, "back=9999");
@@ -76,12 +56,12 @@ public final class ImagesTest {
     }
 
     private static void allIsAsItWas() {
-        List<Integer> before = allThatIsTold(busy());
-        FlapDamper damper = busy();
+        String before = Scene.allThatIsTold(Scene.busy());
+        FlapDamper damper = Scene.busy();
         damper.image(0);
         changeAll(damper);
         Check.due("19: restore", damper.restore(0), 1);
-        Check.due("19: all that is told", allThatIsTold(damper).toString(), before.toString());
+        Check.due("19: all that is told", Scene.allThatIsTold(damper), before);
     }
 
     private static void theTextStays() {
@@ -98,7 +78,7 @@ public final class ImagesTest {
     }
 
     private static void imagesStay() {
-        FlapDamper damper = busy();
+        FlapDamper damper = Scene.busy();
         damper.image(1);
         for (int time = 0; time < 2; time++) {
             damper.announce(0, 0, 1, 0);
@@ -106,7 +86,7 @@ public final class ImagesTest {
             damper.pass(10);
             damper.restore(1);
         }
-        Check.due("19: all that is told", allThatIsTold(damper).toString(), allThatIsTold(busy()).toString());
+        Check.due("19: all that is told", Scene.allThatIsTold(damper), Scene.allThatIsTold(Scene.busy()));
     }
 
     private static void imagesAreTwo() {
@@ -135,48 +115,13 @@ public final class ImagesTest {
     }
 
     private static void whatComesAfterIsTheSame() {
-        FlapDamper straight = busy();
-        FlapDamper back = busy();
+        FlapDamper straight = Scene.busy();
+        FlapDamper back = Scene.busy();
         back.image(0);
         changeAll(back);
         back.restore(0);
-        goOn(straight);
-        goOn(back);
-        Check.due("19: what comes after", allThatIsTold(back).toString(), allThatIsTold(straight).toString());
-    }
-
-    private static void goOn(FlapDamper damper) {
-        damper.announce(0, 0, 1, 0);
-        damper.announce(0, 0, 2, 3);
-        Check.flap(damper, 3, 3, 3);
-        Check.flap(damper, 3, 4, 1);
-        damper.pass(75);
-        damper.announce(2, 1, 2, 9);
-    }
-
-    /** Bounds, routes, records, lines, bests, and all counts but that of images: some 380 calls of the 512. */
-    private static List<Integer> allThatIsTold(FlapDamper damper) {
-        List<Integer> told = new ArrayList<>();
-        for (int which = 0; which < 7; which++) {
-            told.add(damper.bound(which));
-        }
-        for (int route = 0; route < 32; route++) {
-            for (int what = 0; what <= 6; what++) {
-                told.add(damper.route(route / 8, route % 8, what));
-            }
-        }
-        for (int i = 0; i < 24; i++) {
-            told.add(damper.best(i / 3, i % 3));
-        }
-        for (int i = 0; i < 6; i++) {
-            told.add(damper.record(i));
-            for (char sign : Check.line(damper, i).toCharArray()) {
-                told.add((int) sign);
-            }
-        }
-        for (int what = 0; what <= 8; what++) {
-            told.add(damper.count(what));
-        }
-        return told;
+        Scene.goOn(straight);
+        Scene.goOn(back);
+        Check.due("19: what comes after", Scene.allThatIsTold(back), Scene.allThatIsTold(straight));
     }
 }

@@ -4,8 +4,6 @@ import java.util.Random;
 public final class ModelTest {
     private static final int RUNS = 5000;
     private static final int CALLS = 512;
-    private static final String[] NAMES = {"half", "slot", "gone", "swap", "over", "back", "top"};
-    private static final int[] MOST = {200, 50, 2000, 2000, 9999, 9999, 20000};
 
     private final Random random;
     private final FlapDamper damper = new FlapDamper();
@@ -109,9 +107,9 @@ public final class ModelTest {
 
     private void setSomeBound() {
         int which = random.nextInt(7);
-        int number = random.nextInt(random.nextInt(4) == 0 ? 30000 : 1 + MOST[which]);
+        int number = random.nextInt(random.nextInt(4) == 0 ? 30000 : 1 + Limits.MOST[which]);
         due("wipe()", damper.wipe(), model.wipe());
-        sayAll(NAMES[which] + "=" + (random.nextInt(5) == 0 ? "0" : "") + number);
+        sayAll(Limits.NAMES[which] + "=" + (random.nextInt(5) == 0 ? "0" : "") + number);
         due("fault()", damper.fault(), model.fault());
         due("set()", damper.set(), model.set());
         due("bound(" + which + ")", damper.bound(which), model.bound(which));
@@ -205,7 +203,7 @@ public final class ModelTest {
     }
 
     private void someSigns() {
-        String name = NAMES[random.nextInt(7)];
+        String name = Limits.NAMES[random.nextInt(7)];
         String text = name.substring(0, random.nextInt(name.length() + 1)) + (random.nextBoolean() ? "=" : "");
         sayAll(text);
         int more = random.nextInt(4);
