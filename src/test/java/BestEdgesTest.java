@@ -13,6 +13,7 @@ public final class BestEdgesTest {
         whenAnEventIsDone();
         heldByAnEvent();
         whenATickHasPassed();
+        whenATickHasPassedForEachPrefix();
         twoTicksOfOnePass();
         twoRoutesAtOneTick();
         neitherSetNorRestoreChangesIt();
@@ -183,6 +184,21 @@ public final class BestEdgesTest {
         damper.pass(200);
         Check.due("records", damper.count(1), 0);
         bestIs(damper, 0, 4, 3);
+    }
+
+    private static void whenATickHasPassedForEachPrefix() {
+        Check.sentence("BEST of a PREFIX .. CHANGES, if .. a TICK has passed: each PREFIX");
+        for (int prefix = 0; prefix < 8; prefix++) {
+            FlapDamper damper = Scene.with("over=100", "back=9999");
+            Check.flap(damper, 3, prefix, 1);
+            damper.announce(3, prefix, 6, 0);
+            Check.due("held, prefix " + prefix, damper.best(prefix, 0), FlapDamper.NONE);
+            damper.pass(10);
+            Check.due("let go, prefix " + prefix, damper.best(prefix, 0), 3);
+            for (int other = 0; other < 8; other++) {
+                Check.due("changes of " + other, damper.best(other, 2), other == prefix ? 3 : 0);
+            }
+        }
     }
 
     private static void twoTicksOfOnePass() {

@@ -22,6 +22,7 @@ public final class EventsEdgesTest {
         greaterThanOver();
         topAndOver();
         heldOnce();
+        toldAtThisTick();
         fourCauses();
         longestAgoGoes();
         anEchoIsNotCountedAgain();
@@ -357,6 +358,37 @@ public final class EventsEdgesTest {
         Check.due("due is not laid again", damper.route(0, 0, 3), 80);
         Check.due("line", Check.line(damper, 0), "W00+1000=3522");
         Check.due("held ones", damper.count(2), 1);
+    }
+
+    private static void toldAtThisTick() {
+        Check.sentence("told at this TICK");
+        FlapDamper damper = new FlapDamper();
+        damper.pass(1);
+        damper.announce(0, 0, 1, 0);
+        damper.withdraw(0, 0, 7);
+        figureIs(damper, 1000, 1);
+        damper.pass(1);
+        Check.due("weighs 0", damper.announce(0, 0, 1, 0), 0);
+        figureIs(damper, 1000, 1);
+        Check.due("an echo", damper.announce(0, 0, 2, 7), 1);
+        figureIs(damper, 1000, 1);
+        Check.due("refused", damper.announce(0, 0, 2, 0), FlapDamper.NO);
+        figureIs(damper, 1000, 1);
+        Check.due("counted", damper.announce(0, 0, 3, 0), 3);
+        figureIs(damper, 1500, 2);
+        damper.pass(1);
+        Check.due("held by this", damper.withdraw(0, 0, 0), 4);
+        figureIs(damper, 2500, 3);
+        damper.pass(8);
+        damper.announce(0, 0, 1, 0);
+        Check.due("held already", damper.announce(0, 0, 2, 0), 3);
+        // 2500 times 60097 by 65536 is 2292.
+        figureIs(damper, 2792, 11);
+    }
+
+    private static void figureIs(FlapDamper damper, int figure, int tick) {
+        Check.due("figure", damper.route(0, 0, 4), figure);
+        Check.due("told at", damper.route(0, 0, 5), tick);
     }
 
     /** An object whose route (0, 0) has counted causes 1 to so many, in this order, and has path 9. */

@@ -11,6 +11,7 @@ public final class ImagesEdgesTest {
         eachImageForItself();
         allButTheText();
         allButTheImages();
+        recordsAreKept();
         boundsAreKept();
         Check.end();
     }
@@ -91,6 +92,8 @@ public final class ImagesEdgesTest {
         Check.due("causes", damper.route(0, 5, 6), 4);
         damper.image(1);
         damper.announce(0, 5, 6, 77);
+        damper.announce(3, 7, 1, 0);
+        Check.due("lost", damper.withdraw(3, 7, 0), 2);
         damper.pass(200);
         Check.due("records then", damper.count(1), 0);
         damper.restore(1);
@@ -194,6 +197,30 @@ public final class ImagesEdgesTest {
         Check.due("tick of the second", damper.count(0), 3);
         damper.restore(0);
         Check.due("tick of the first", damper.count(0), 0);
+    }
+
+    private static void recordsAreKept() {
+        Check.sentence("All .. is as it was when it was kept: RECORDS");
+        FlapDamper damper = new FlapDamper();
+        damper.pass(3);
+        Check.flap(damper, 0, 0, 2);
+        damper.image(0);
+        damper.pass(2);
+        damper.announce(0, 0, 1, 0);
+        Check.due("held by this", damper.withdraw(0, 0, 8), 4);
+        damper.image(1);
+        damper.restore(0);
+        recordIs(damper, 2000, 0, FlapDamper.NONE, 2000, 3, 0);
+        damper.restore(1);
+        recordIs(damper, 3000, 1, 80, 3000, 5, 1);
+        damper.restore(0);
+        recordIs(damper, 2000, 0, FlapDamper.NONE, 2000, 3, 0);
+    }
+
+    private static void recordIs(FlapDamper damper, int... want) {
+        for (int i = 0; i < want.length; i++) {
+            Check.due("route(0, 0, " + (i + 1) + ")", damper.route(0, 0, i + 1), want[i]);
+        }
     }
 
     private static void boundsAreKept() {

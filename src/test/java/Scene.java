@@ -58,6 +58,7 @@ final class Scene {
         Check.flap(damper, 3, 4, 1);
         damper.pass(75);
         damper.announce(2, 1, 2, 9);
+        damper.withdraw(2, 1, 0);
     }
 
     /** Bounds, routes, records, lines, bests, and all counts but that of images: some 380 calls of the 512. */

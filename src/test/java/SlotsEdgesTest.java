@@ -27,6 +27,7 @@ public final class SlotsEdgesTest {
         whenOfOneThatIsNotHeld();
         whenIsTheTick();
         whenByOtherBounds();
+        whenSomethingCame();
         whenFarAway();
         at512Calls();
         Check.end();
@@ -397,6 +398,22 @@ public final class SlotsEdgesTest {
         Check.set(damper, "half=4");
         Check.due("below it at 15", damper.when(0, 0), 15);
         dueIs(damper, 10);
+    }
+
+    private static void whenSomethingCame() {
+        Check.sentence("if nothing comes: and something did");
+        FlapDamper damper = heldAt2000("back=1001");
+        Check.due("when", damper.when(0, 0), 80);
+        damper.pass(70);
+        damper.announce(0, 0, 1, 0);
+        Check.due("counted, held already", damper.announce(0, 0, 2, 0), 3);
+        // 1090 and 500, told at 70: at 140 it is 1590 times 35734 by 65536, which is 866, at 130 945, at 120 1030.
+        Check.due("when then", damper.when(0, 0), 130);
+        dueIs(damper, 80);
+        Check.due("held at 80", damper.pass(10), 1);
+        dueIs(damper, 130);
+        Check.due("held at 129", damper.pass(49), 1);
+        Check.due("held at 130", damper.pass(1), 0);
     }
 
     /** The dearest bounds of all: held for 1750 ticks, so nothing can be HELD still after 5000. */

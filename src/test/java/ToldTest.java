@@ -6,7 +6,6 @@ public final class ToldTest {
         routeTells();
         routeRefuses();
         penaltyGoesByTheRow();
-        theRowIsExact();
         penaltyFarAwayIsNothing();
         laterTells();
         laterRefuses();
@@ -86,23 +85,6 @@ public final class ToldTest {
         Check.due("11: halved, then by the row", odd.later(0, 0, 127), 249);
         Check.due("11: halved, then by the row", odd.later(0, 0, 128), 228);
         Check.due("11: halved three times", odd.later(0, 0, 180), 124);
-    }
-
-    /** Of figures at which a number of the row that is one more, or one less, would tell another penalty. */
-    private static void theRowIsExact() {
-        int[][] figures = {{1000, 1999}, {1000, 1181}, {1037, 1012}, {1031, 1066},
-            {1014, 1055}, {1041, 1024}, {1036, 1078}, {1293, 1392}};
-        int[][] want = {{1000, 1999}, {917, 1082}, {872, 850}, {795, 821},
-            {717, 745}, {675, 663}, {616, 640}, {705, 758}};
-        for (int place = 0; place < 8; place++) {
-            for (int i = 0; i < 2; i++) {
-                FlapDamper damper = new FlapDamper();
-                Check.set(damper, "half=8");
-                Check.set(damper, "gone=" + figures[place][i]);
-                Check.flap(damper, 0, 0, 1);
-                Check.due("11: the row at " + place, damper.later(0, 0, place), want[place][i]);
-            }
-        }
     }
 
     private static void penaltyFarAwayIsNothing() {
