@@ -57,6 +57,10 @@ public final class ModelTest {
 
     private void due(String call, int got, int want) {
         calls++;
+        // What calls after the 512th answer is free.
+        if (calls > CALLS) {
+            return;
+        }
         Check.due("run " + run + ", call " + calls + ": " + call, got, want);
     }
 
